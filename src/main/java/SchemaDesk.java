@@ -20,7 +20,7 @@ public final class SchemaDesk {
     private static final long LONG_LOW = 1L << 63, LONG_HIGH = ~LONG_LOW;
 
     // Far above what a walk needs: at most 400 values with 100 blocks, or some 100000 steps of resolving.
-    private static final int STEPS = 10000000;
+    private static final int STEPS = 1000000;
     // A default record that begins within n others is value DEFAULTS + n, behind those that were read.
     private static final int DEFAULTS = VALUES, OUTCOMES = (VALUES + NESTED) * TYPES;
     // In pairs, a default stands where else a type of the writer does.

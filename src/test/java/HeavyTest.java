@@ -18,45 +18,53 @@ public final class HeavyTest {
         return t;
     }
 
-    /** Each RECORD has five of the next one as defaults, ten levels deep. */
+    /** Each RECORD has five of the next one as defaults, ten levels deep; the first ends with a number. */
     private static void defaultsOfDefaults() {
         SchemaDesk x = new SchemaDesk();
         int empty = x.type(9, 0);
         int leaf = x.type(9, 0);
         int t = leaf;
-        for (int i = 0; i < 9; i++) t = fiveOf(x, t, -1, true);
+        for (int i = 0; i < 8; i++) t = fiveOf(x, t, -1, true);
+        int top = x.type(9, 0);
+        for (int i = 0; i < 4; i++) x.field(top, i, t, -1, true, 0);
+        x.field(top, 4, x.type(2, 0), -1, true, 7);
         int array = x.type(7, empty);
-        int asked = x.type(7, t);
-        Check.due("nothing, 1953125 times", x.read(empty, t), 0);
-        Check.list("nothing", x);
+        int asked = x.type(7, top);
+        Check.due("nothing, 1562500 times", x.read(empty, top), 0);
+        Check.list("and a number", x, 7);
         Check.setBytes(x, 80, 0);
         Check.due("and forty times that", x.read(array, asked), 2);
-        Check.list("forty", x, 40);
-        Check.due("safe", x.safe(empty, t), 1);
+        long[] forty = new long[41];
+        java.util.Arrays.fill(forty, 7);
+        forty[0] = 40;
+        Check.list("forty", x, forty);
+        Check.due("safe", x.safe(empty, top), 1);
         x.field(leaf, 0, x.type(7, leaf), -1, true, 0);
-        Check.due("a number in each", x.read(empty, t), FULL);
+        Check.due("a number in each", x.read(empty, top), FULL);
         x.field(leaf, 1, empty, -1, false, 0);
-        Check.due("a MISMATCH in the first", x.read(empty, t), MISMATCH);
-        Check.due("not safe", x.safe(empty, t), 0);
+        Check.due("a MISMATCH in the first", x.read(empty, top), MISMATCH);
+        Check.due("not safe", x.safe(empty, top), 0);
     }
 
-    /** All five fields of r come from the only one of w, ten levels deep. */
+    /** All five fields of r come from the only one of w, nine levels deep; the first ends with a number. */
     private static void oneFieldForFive() {
         SchemaDesk x = new SchemaDesk();
         int w = x.type(9, 0);
-        int r = x.type(9, 0);
-        int last = r;
-        for (int i = 0; i < 9; i++) {
+        int last = x.type(9, 0);
+        for (int i = 0; i < 8; i++) {
             int t = x.type(9, 0);
             x.field(t, 0, w, -1, false, 0);
             w = t;
         }
-        r = x.type(9, 0);
-        for (int i = 0; i < 5; i++) x.field(r, i, r, 0, i > 0, 0);
-        Check.due("the innermost has no field 0", x.read(w, r), MISMATCH);
-        for (int i = 0; i < 8; i++) last = fiveOf(x, last, 0, false);
-        Check.due("nothing, 390625 times", x.read(w, last), 0);
-        Check.list("nothing", x);
+        for (int i = 0; i < 7; i++) last = fiveOf(x, last, 0, false);
+        int top = x.type(9, 0);
+        for (int i = 0; i < 4; i++) x.field(top, i, last, 0, false, 0);
+        x.field(top, 4, x.type(2, 0), -1, true, 7);
+        Check.due("nothing, 312500 times", x.read(w, top), 0);
+        Check.list("and a number", x, 7);
+        int ring = x.type(9, 0);
+        for (int i = 0; i < 5; i++) x.field(ring, i, ring, 0, i > 0, 0);
+        Check.due("the innermost has no field 0", x.read(w, ring), MISMATCH);
     }
 
     private static void rings() {

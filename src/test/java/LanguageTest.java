@@ -175,7 +175,9 @@ public final class LanguageTest {
         public Void visitMethodInvocation(MethodInvocationTree call, Void nothing) {
             if (arguments > 0) fault(call, "a call inside the arguments of another");
             // The constructor's call of its superclass's is the compiler's, not the source's.
-            if (!call.getMethodSelect().toString().equals("super")) calls.get(method).add(call.getMethodSelect().toString());
+            String name = call.getMethodSelect().toString();
+            if (!name.equals("super")) calls.get(method).add(name);
+            scan(call.getMethodSelect(), nothing);
             arguments++;
             scan(call.getArguments(), nothing);
             arguments--;
