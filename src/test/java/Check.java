@@ -30,6 +30,42 @@ final class Check {
         due(what + ": at(" + want.length + ")", x.at(want.length), SchemaDesk.REFUSED);
     }
 
+    /** A read that takes all bytes that are given. */
+    static void reads(String what, SchemaDesk x, int w, int r, int[] bytes, long... want) {
+        setBytes(x, bytes);
+        due(what + ": read", x.read(w, r), bytes.length);
+        list(what, x, want);
+    }
+
+    static void readFails(String what, SchemaDesk x, int w, int r, int code, int... bytes) {
+        setBytes(x, bytes);
+        due(what + ": read", x.read(w, r), code);
+        list(what + ": no result", x);
+    }
+
+    static void writes(String what, SchemaDesk x, int t, long[] numbers, int... want) {
+        setNumbers(x, numbers);
+        due(what + ": write", x.write(t), want.length);
+        bytes(what, x, want);
+    }
+
+    /** A write that changes neither bytes nor numbers. */
+    static void writeFails(String what, SchemaDesk x, int t, int code, long... numbers) {
+        setBytes(x, 9, 8, 7);
+        setNumbers(x, numbers);
+        due(what + ": write", x.write(t), code);
+        bytes(what + ": the bytes stay", x, 9, 8, 7);
+        due(what + ": the numbers stay", x.wipe(true), numbers.length);
+    }
+
+    static int[] of(int... bytes) {
+        return bytes;
+    }
+
+    static long[] row(long... numbers) {
+        return numbers;
+    }
+
     static void setBytes(SchemaDesk x, int... bytes) {
         x.wipe(false);
         for (int b : bytes) x.add(b);

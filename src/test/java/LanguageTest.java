@@ -29,8 +29,7 @@ public final class LanguageTest {
     private static final Set<Tree.Kind> FORBIDDEN = EnumSet.of(
         Tree.Kind.THROW, Tree.Kind.TRY, Tree.Kind.CATCH, Tree.Kind.SYNCHRONIZED, Tree.Kind.ASSERT, Tree.Kind.INSTANCE_OF,
         Tree.Kind.LAMBDA_EXPRESSION, Tree.Kind.MEMBER_REFERENCE, Tree.Kind.NEW_CLASS, Tree.Kind.STRING_LITERAL,
-        Tree.Kind.NULL_LITERAL, Tree.Kind.FLOAT_LITERAL, Tree.Kind.DOUBLE_LITERAL, Tree.Kind.MEMBER_SELECT,
-        Tree.Kind.ENHANCED_FOR_LOOP, Tree.Kind.WHILE_LOOP, Tree.Kind.DO_WHILE_LOOP, Tree.Kind.ANNOTATION);
+        Tree.Kind.NULL_LITERAL, Tree.Kind.FLOAT_LITERAL, Tree.Kind.DOUBLE_LITERAL, Tree.Kind.ANNOTATION);
 
     private static final Map<String, Set<String>> calls = new HashMap<>();
     private static final List<String> faults = new ArrayList<>();
@@ -166,16 +165,38 @@ public final class LanguageTest {
 
         @Override
         public Void visitForLoop(ForLoopTree loop, Void nothing) {
-            String condition = String.valueOf(loop.getCondition());
-            if (!condition.contains("<") || loop.getUpdate().isEmpty()) fault(loop, "a loop whose end can't be seen");
+            lookAtCondition(loop, loop.getCondition());
             return super.visitForLoop(loop, nothing);
+        }
+
+        @Override
+        public Void visitWhileLoop(WhileLoopTree loop, Void nothing) {
+            lookAtCondition(loop, loop.getCondition());
+            return super.visitWhileLoop(loop, nothing);
+        }
+
+        @Override
+        public Void visitDoWhileLoop(DoWhileLoopTree loop, Void nothing) {
+            lookAtCondition(loop, loop.getCondition());
+            return super.visitDoWhileLoop(loop, nothing);
+        }
+
+        private void lookAtCondition(Tree loop, Tree condition) {
+            if (!String.valueOf(condition).matches(".*[<>].*")) fault(loop, "a loop whose end can't be seen");
+        }
+
+        @Override
+        public Void visitMemberSelect(MemberSelectTree select, Void nothing) {
+            boolean own = select.getExpression().toString().equals("this");
+            if (!own && !select.getIdentifier().contentEquals("length")) fault(select, "a member of something else: " + select);
+            return super.visitMemberSelect(select, nothing);
         }
 
         @Override
         public Void visitMethodInvocation(MethodInvocationTree call, Void nothing) {
             if (arguments > 0) fault(call, "a call inside the arguments of another");
             // The constructor's call of its superclass's is the compiler's, not the source's.
-            String name = call.getMethodSelect().toString();
+            String name = call.getMethodSelect().toString().replace("this.", "");
             if (!name.equals("super")) calls.get(method).add(name);
             scan(call.getMethodSelect(), nothing);
             arguments++;

@@ -7,8 +7,10 @@ import java.util.Random;
  * the Model's. At its end it looks whether each trouble, and enough of what went well, came up.
  */
 public final class ModelTest {
-    private static final int RUNS = 4000;
-    private static final int CALLS = 500;
+    private static final int RUNS = 8000;
+    /** The document promises nothing of an object after that many. */
+    private static final int CALLS = 512;
+    private static final int LOOKED_AT_WHOLE = 12;
     private static final int[] EDGES = {-2, -1, 0, 1, 15, 16, 19, 20, 255, 256, Integer.MIN_VALUE, Integer.MAX_VALUE};
 
     private final Random random;
@@ -59,7 +61,11 @@ public final class ModelTest {
         int parts = below(thin ? 12 * first : 3 * first);
         for (int i = 0; i < parts; i++) newPart();
         if (twins) makeTwins();
-        while (calls < CALLS) step();
+        while (!isOver()) step();
+    }
+
+    private boolean isOver() {
+        return calls == CALLS;
     }
 
     private void thinTypes() {
@@ -175,22 +181,27 @@ public final class ModelTest {
     }
 
     private void typeCall(int kind, int a) {
+        if (isOver()) return;
         due("type(" + kind + ", " + a + ")", desk.type(kind, a), model.type(kind, a));
     }
 
     private void symbolCall(int t, int name) {
+        if (isOver()) return;
         due("symbol(" + t + ", " + name + ")", desk.symbol(t, name), model.symbol(t, name));
     }
 
     private void branchCall(int t, int u) {
+        if (isOver()) return;
         due("branch(" + t + ", " + u + ")", desk.branch(t, u), model.branch(t, u));
     }
 
     private void fallbackCall(int t, int name) {
+        if (isOver()) return;
         due("fallback(" + t + ", " + name + ")", desk.fallback(t, name) ? 1 : 0, model.fallback(t, name) ? 1 : 0);
     }
 
     private void fieldCall(int t, int name, int u, int alias, boolean has, int v) {
+        if (isOver()) return;
         String what = "field(" + t + ", " + name + ", " + u + ", " + alias + ", " + has + ", " + v + ")";
         due(what, desk.field(t, name, u, alias, has, v), model.field(t, name, u, alias, has, v));
     }
@@ -221,9 +232,9 @@ public final class ModelTest {
         int same = model.same(t, u);
         if (safe >= 0 && t != u) safeAnswers[safe]++;
         if (same >= 0 && t != u) sameAnswers[same]++;
-        due("safe(" + t + ", " + u + ")", desk.safe(t, u), safe);
-        due("same(" + t + ", " + u + ")", desk.same(t, u), same);
-        if (below(4) == 0) due("different()", desk.different(), model.different());
+        if (!isOver()) due("safe(" + t + ", " + u + ")", desk.safe(t, u), safe);
+        if (!isOver()) due("same(" + t + ", " + u + ")", desk.same(t, u), same);
+        if (!isOver() && below(4) == 0) due("different()", desk.different(), model.different());
     }
 
     private int someByte() {
@@ -387,32 +398,55 @@ public final class ModelTest {
     }
 
     private void addCall(int b) {
+        if (isOver()) return;
         due("add(" + b + ")", desk.add(b), model.add(b));
     }
 
     private void wipe(boolean numbers) {
+        if (isOver()) return;
         due("wipe(" + numbers + ")", desk.wipe(numbers), model.wipe(numbers));
     }
 
     private void number(long v) {
+        if (isOver()) return;
         due("number(" + v + ")", desk.number(v), model.number(v));
     }
 
     private int write(int t) {
+        if (isOver()) return SchemaDesk.REFUSED;
         int want = model.write(t);
         writeAnswers[want < 0 ? -want : 0]++;
         due("write(" + t + ")", desk.write(t), want);
-        // Not counted as calls: they change nothing.
-        for (int k = 0; k <= model.bytes.size(); k++) Check.due(run + ": at(" + k + ") after write", desk.at(k), model.at(k));
+        int count = model.bytes.size();
+        if (count <= LOOKED_AT_WHOLE) {
+            for (int k = 0; k <= count; k++) lookAtByte(k);
+        } else {
+            for (int i = 0; i < LOOKED_AT_WHOLE; i++) lookAtByte(below(count + 1));
+        }
         return want;
     }
 
+    private void lookAtByte(int k) {
+        if (!isOver()) due("at(" + k + ") after write", desk.at(k), model.at(k));
+    }
+
     private void read(int w, int r) {
+        if (isOver()) return;
         int want = model.read(w, r);
         if (want == Model.TOO_LONG) return;
         readAnswers[want < 0 ? -want : 0]++;
         if (want >= 0 && w != r && model.result(-1) > 2) resolved++;
         due("read(" + w + ", " + r + ")", desk.read(w, r), want);
-        for (int k = -2; k <= model.result.size(); k++) Check.due(run + ": result(" + k + ") after read", desk.result(k), model.result(k));
+        lookAtResult(-1);
+        int count = model.result.size();
+        if (count <= LOOKED_AT_WHOLE) {
+            for (int k = 0; k <= count; k++) lookAtResult(k);
+        } else {
+            for (int i = 0; i < LOOKED_AT_WHOLE; i++) lookAtResult(below(count + 1));
+        }
+    }
+
+    private void lookAtResult(int k) {
+        if (!isOver()) due("result(" + k + ") after read", desk.result(k), model.result(k));
     }
 }
