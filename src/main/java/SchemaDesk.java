@@ -58,7 +58,7 @@ public final class SchemaDesk {
     // 10 RECORDs, and ARRAYs that each have a number in the list. So VALUES frames are enough.
     private int top = 0;
     private int records = 0;
-    private final int[] frameValue = new int[VALUES];
+    private final int[] frameValue = new int[VALUES]; // NONE in writing, where no values are kept
     private final int[] frameType = new int[VALUES];
     private final int[] frameStep = new int[VALUES]; // the next part; resolving an ARRAY, the next value
     private final int[] frameLeft = new int[VALUES];
@@ -584,7 +584,6 @@ public final class SchemaDesk {
 
     private void writeValue(int t) {
         if (!beginValue(t)) return;
-        int value = valueCount - 1;
         long v;
         switch (kindOf[t]) {
             case NULL:
@@ -616,15 +615,15 @@ public final class SchemaDesk {
             case ARRAY:
                 v = takeNumber(0, ITEMS);
                 if (v > 0) writeLong(v);
-                push(value, t, 0, (int) v);
+                push(NONE, t, 0, (int) v);
                 break;
             case UNION:
                 v = takeNumber(0, partCount[t] - 1);
                 writeLong(v);
-                push(value, t, (int) v, 1);
+                push(NONE, t, (int) v, 1);
                 break;
             default:
-                push(value, t, 0, partCount[t]);
+                push(NONE, t, 0, partCount[t]);
                 break;
         }
     }

@@ -37,6 +37,7 @@ public final class EdgesOfBytesTest {
         moreThanForty();
         asSoonAsNSaysSo();
         oneBlockAndZero();
+        shortBehindTheHundredth();
         add();
         at();
         wipe();
@@ -450,6 +451,29 @@ public final class EdgesOfBytesTest {
         Check.writes("within another", x, outer, Check.row(2, 0, 1, 1), 4, 0, 2, 1, 0, 0);
     }
 
+    /** "SHORT if a byte is needed and there is none": all hundred bytes are read, and then one more. */
+    private static void shortBehindTheHundredth() {
+        for (int kind = 0; kind < 10; kind++) {
+            SchemaDesk x = new SchemaDesk();
+            int u = kind == ARRAY ? x.type(ARRAY, x.type(NULL, 0)) : x.type(kind, kind == FIXED ? 1 : 0);
+            if (kind == ENUM) x.symbol(u, 0);
+            if (kind == UNION) x.branch(u, x.type(NULL, 0));
+            if (kind == RECORD) x.field(u, 0, x.type(BOOL, 0), -1, false, 0);
+            int t = x.type(RECORD, 0);
+            x.field(t, 0, x.type(ARRAY, x.type(FIXED, 8)), -1, false, 0);
+            x.field(t, 1, x.type(FIXED, 2), -1, false, 0);
+            x.field(t, 2, u, -1, false, 0);
+            x.add(24);
+            for (int i = 0; i < 96; i++) x.add(200);
+            x.add(0);
+            x.add(200);
+            Check.due("99 bytes, then kind " + kind, x.read(t, t), SHORT);
+            x.add(200);
+            Check.due("100 bytes, then kind " + kind, x.read(t, t), kind == NULL ? 100 : SHORT);
+            Check.due("100 bytes, then kind " + kind, x.result(-1), kind == NULL ? 100 : 0);
+        }
+    }
+
     // ---- promises 7 to 10 ----
 
     /** "Appends a byte: how many there are; REFUSED if it is not 0 .. 255, or there are 100." */
@@ -539,6 +563,9 @@ public final class EdgesOfBytesTest {
         Check.due("the 101st", x.number(0), REFUSED);
         Check.due("the 101st again", x.number(5), REFUSED);
         Check.due("with 100", x.write(array), 2);
+        x.wipe(true);
+        for (int i = 0; i < 100; i++) x.number(i == 0 ? 34 : 0);
+        Check.due("with 100, where 103 are needed", x.write(array), SHORT);
         Check.due("a hundred", x.wipe(true), 100);
         Check.due("and the first again", x.number(0), 1);
         Check.due("and the first again", x.write(array), 1);

@@ -14,6 +14,7 @@ public final class EdgesOfPairsTest {
         refusedChangesNothing();
         safeByItself();
         whateverBranch();
+        notSafeToItself();
         whateverSymbol();
         defaultsToo();
         onlyAMismatchCounts();
@@ -33,6 +34,7 @@ public final class EdgesOfPairsTest {
         sameAliases();
         sameDefaults();
         sameTypesOfParts();
+        sameWithFiveParts();
         asFarAsOneCanGo();
         differentCounts();
         nothingElseChanges();
@@ -150,6 +152,20 @@ public final class EdgesOfPairsTest {
         safe("r without branches", x, number, union(x), 0);
     }
 
+    /** Its second branch suits the first one, too, and that one lacks a symbol. */
+    private static void notSafeToItself() {
+        SchemaDesk x = new SchemaDesk();
+        int choice = x.type(UNION, 0);
+        x.branch(choice, enumOf(x, 1));
+        x.branch(choice, enumOf(x, 1, 2));
+        for (int i = 0; i < 3; i++) {
+            safe("the UNION to itself", x, choice, choice, 0);
+            safe("its branch to itself", x, 1, 1, 1);
+            same("the UNION and itself", x, choice, choice, 1);
+            safe("its other branch to itself", x, 2, 2, 1);
+        }
+    }
+
     /** "whatever ... symbol of an ENUM is taken". */
     private static void whateverSymbol() {
         SchemaDesk x = new SchemaDesk();
@@ -181,6 +197,7 @@ public final class EdgesOfPairsTest {
         safe("no default", x, w, field(x, 0, number, -1, false, 0), 0);
         safe("a default", x, w, withDefault(x, number), 1);
         safe("of an ENUM without symbols", x, w, withDefault(x, none), 0);
+        safe("of an ENUM with a symbol", x, w, withDefault(x, enumOf(x, 3)), 1);
         safe("of a UNION without branches", x, w, withDefault(x, choice), 0);
         safe("of an ARRAY of ENUMs without symbols", x, w, withDefault(x, x.type(ARRAY, none)), 1);
         safe("of a UNION whose branch 0 has none", x, w, withDefault(x, union(x, none, number)), 0);
@@ -490,6 +507,40 @@ public final class EdgesOfPairsTest {
         same("fields", x, record(x, number), record(x, again), 1);
         same("the last field", x, record(x, number, big), record(x, number, again), 0);
         same("a field of its own kind", x, record(x, record(x)), record(x, record(x)), 1);
+    }
+
+    /** Types of five parts each, and behind them types that are not the same. */
+    private static void sameWithFiveParts() {
+        SchemaDesk x = new SchemaDesk();
+        int number = x.type(INT, 0);
+        int again = x.type(INT, 0);
+        int[] kinds = {ENUM, UNION, RECORD};
+        int[] first = new int[3];
+        int[] second = new int[3];
+        for (int k = 0; k < 3; k++) {
+            first[k] = x.type(kinds[k], 0);
+            enumOf(x, k);
+            second[k] = x.type(kinds[k], 0);
+            if (k < 2) enumOf(x, 15, k);
+        }
+        for (int i = 0; i < 5; i++) {
+            x.symbol(first[0], i);
+            x.symbol(second[0], i);
+            x.branch(first[1], number);
+            x.branch(second[1], again);
+            x.field(first[2], i, number, i, true, i);
+            x.field(second[2], i, again, i, true, i);
+        }
+        for (int k = 0; k < 3; k++) same("five parts of kind " + kinds[k], x, first[k], second[k], 1);
+        for (int k = 0; k < 3; k++) safe("five parts of kind " + kinds[k], x, first[k], second[k], 1);
+        x = new SchemaDesk();
+        for (int t = 0; t < 18; t++) x.type(NULL, 0);
+        int[] last = {x.type(RECORD, 0), x.type(RECORD, 0)};
+        for (int i = 0; i < 5; i++) {
+            for (int t : last) x.field(t, i, i, -1, true, i);
+        }
+        same("five parts of the last two types", x, last[0], last[1], 1);
+        safe("five parts of the last two types", x, last[0], last[1], 1);
     }
 
     /** "as far as one can go". */

@@ -34,12 +34,14 @@ public final class EdgesOfResolvingTest {
         defaultOfRecord();
         aRecordWithinTenOthers();
         aDefaultWithinTenOthers();
+        otherDefaultsWithinTen();
         whatBeginsNoRecord();
         hundredFiftyNumbers();
         aDefaultNumberTooMany();
         withoutANumberToGive();
         inTheOrderInWhichTheListGrows();
         aFieldThatHasNoValue();
+        typesThatGrow();
         aWrongReadLeavesNothing();
         Check.end();
     }
@@ -463,6 +465,25 @@ public final class EdgesOfResolvingTest {
         Check.readFails("five that were read, and six defaults", x, source, nest(x, 5, six, true), DEEP);
     }
 
+    /** What is no RECORD may be a default within ten, whatever it is. */
+    private static void otherDefaultsWithinTen() {
+        long[][] lists = {{0}, {1}, {3}, {3}, {1, 3}, {7}, {3, 3}, {0}, {0, 3}};
+        for (int kind = 0; kind < 9; kind++) {
+            SchemaDesk x = new SchemaDesk();
+            int w = x.type(RECORD, 0);
+            int u = x.type(kind, kind == FIXED ? 2 : 0);
+            if (kind == ENUM) x.symbol(u, 7);
+            if (kind == UNION) x.branch(u, x.type(INT, 0));
+            Check.reads("a default of kind " + kind + " within ten", x, w, nest(x, 10, u, true), Check.of(), lists[kind]);
+        }
+        SchemaDesk x = new SchemaDesk();
+        int w = x.type(RECORD, 0);
+        Check.readFails("of an ENUM without symbols", x, w, nest(x, 10, x.type(ENUM, 0), true), MISMATCH);
+        x = new SchemaDesk();
+        w = x.type(RECORD, 0);
+        Check.readFails("of a UNION without branches", x, w, nest(x, 10, x.type(UNION, 0), true), MISMATCH);
+    }
+
     /** Within ten others, what is no RECORD, does not suit one, or has no value, begins none. */
     private static void whatBeginsNoRecord() {
         SchemaDesk x = new SchemaDesk();
@@ -691,6 +712,33 @@ public final class EdgesOfResolvingTest {
         x.field(other, 2, full, -1, false, 0);
         x.field(other, 1, full, 0, false, 0);
         Check.due("its turn comes before FULL", x.read(w, other), MISMATCH);
+    }
+
+    /** A type may get parts after it was used, and the next read goes by them. */
+    private static void typesThatGrow() {
+        SchemaDesk x = new SchemaDesk();
+        int w = x.type(RECORD, 0);
+        int r = x.type(RECORD, 0);
+        int inner = x.type(RECORD, 0);
+        int number = x.type(INT, 0);
+        Check.reads("no field", x, w, r, Check.of());
+        x.field(r, 0, inner, -1, true, 0);
+        Check.reads("a field that adds nothing", x, w, r, Check.of());
+        x.field(inner, 0, number, -1, true, 6);
+        Check.reads("it adds a number now", x, w, r, Check.of(), 6);
+        x.field(r, 1, number, -1, true, 5);
+        Check.reads("another field", x, w, r, Check.of(), 6, 5);
+        x.field(w, 1, number, -1, false, 0);
+        Check.reads("w has that field, too", x, w, r, Check.of(14), 6, 7);
+        int choice = x.type(UNION, 0);
+        Check.readFails("no branch", x, number, choice, MISMATCH, 14);
+        x.branch(choice, number);
+        Check.reads("a branch", x, number, choice, Check.of(14), 0, 7);
+        int from = enumOf(x, 1, 2);
+        int to = enumOf(x, 1);
+        Check.readFails("no symbol", x, from, to, MISMATCH, 2);
+        x.symbol(to, 2);
+        Check.reads("a symbol", x, from, to, Check.of(2), 2);
     }
 
     /** "there is no result then": none of a list that was begun, nor of the one before. */

@@ -20,6 +20,7 @@ public final class EdgesOfTypesTest {
         fixedOf0To8Bytes();
         arrayOfATypeThatIsThere();
         aCountsForFixedAndArrayOnly();
+        aDoesNotShowLater();
         aRefusedTypeLeavesNothing();
         fiveSymbols();
         symbolNames();
@@ -183,6 +184,31 @@ public final class EdgesOfTypesTest {
         Check.due("FIXED and ARRAY differ by it", x.different(), 8);
     }
 
+    /** Types made with an a that would be a size and a type, used in every way. */
+    private static void aDoesNotShowLater() {
+        int[] values = {1, 8, 3, -1, HIGH};
+        for (int a : values) {
+            SchemaDesk x = new SchemaDesk();
+            for (int kind = 0; kind < 10; kind++) x.type(kind, kind == FIXED ? 2 : kind == ARRAY ? 1 : a);
+            x.symbol(ENUM, 7);
+            x.branch(UNION, 1);
+            x.field(RECORD, 0, 1, -1, true, 1);
+            long[][] lists = {{0}, {1}, {-1}, {-1}, {1, 9}, {7}, {9, 9}, {1, 1}, {0, 1}, {1}};
+            int[][] bytes = {{}, {1}, {1}, {1}, {2, 9}, {0}, {9, 9}, {2, 1, 0}, {0, 1}, {1}};
+            long[][] defaults = {{0}, {1}, {5}, {5}, {1, 5}, {7}, {5, 5}, {0}, {0, 1}, {1}};
+            int empty = x.type(RECORD, a);
+            for (int t = 0; t < 10; t++) {
+                Check.writes("kind " + t + " made with " + a, x, t, lists[t], bytes[t]);
+                Check.reads("kind " + t + " made with " + a, x, t, t, bytes[t], lists[t]);
+                if (t == 9) break;
+                int r = x.type(RECORD, a);
+                x.field(r, 1, t, -1, true, 5);
+                Check.reads("kind " + t + " made with " + a + ", by default", x, empty, r, Check.of(), defaults[t]);
+                Check.due("kind " + t + " made with " + a + ": safe", x.safe(empty, r), 1);
+            }
+        }
+    }
+
     private static void aRefusedTypeLeavesNothing() {
         SchemaDesk x = new SchemaDesk();
         x.type(4, 0);
@@ -322,7 +348,8 @@ public final class EdgesOfTypesTest {
         x.branch(UNION, 0);
         x.field(RECORD, 0, 0, -1, false, 0);
         int[] none = {-1, 10, 19, 20, LOW, HIGH};
-        for (int t : none) Check.due("of " + t, x.fallback(t, -1), false);
+        for (int t : none) Check.due("none, of " + t, x.fallback(t, -1), false);
+        for (int t : none) Check.due("0, of " + t, x.fallback(t, 0), false);
         for (int t = 0; t < 10; t++) {
             if (t == ENUM) continue;
             Check.due("none, of kind " + t, x.fallback(t, -1), false);

@@ -28,10 +28,15 @@ public final class HeavyTest {
         int top = x.type(9, 0);
         for (int i = 0; i < 4; i++) x.field(top, i, t, -1, true, 0);
         x.field(top, 4, x.type(2, 0), -1, true, 7);
+        int turned = x.type(9, 0);
+        x.field(turned, 4, x.type(2, 0), -1, true, 7);
+        for (int i = 0; i < 4; i++) x.field(turned, i, t, -1, true, 0);
         int array = x.type(7, empty);
         int asked = x.type(7, top);
         Check.due("nothing, 1562500 times", x.read(empty, top), 0);
         Check.list("and a number", x, 7);
+        Check.due("the number before it", x.read(empty, turned), 0);
+        Check.list("the number before it", x, 7);
         Check.setBytes(x, 80, 0);
         Check.due("and forty times that", x.read(array, asked), 2);
         long[] forty = new long[41];
